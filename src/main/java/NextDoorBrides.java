@@ -1295,17 +1295,15 @@ public final class NextDoorBrides {
         }
 
         private void note(int what, int who, int much) {
-            if (thought || street.lines >= MOST_BOOK) {
+            if (thought || street.lines < 0 || street.lines >= MOST_BOOK) {
                 return;
             }
             int start = street.lines * LINE;
-            if (start >= 0 && start + 3 < pages.length) {
-                pages[start] = street.generation;
-                pages[start + 1] = what;
-                pages[start + 2] = who;
-                pages[start + 3] = much;
-                street.lines++;
-            }
+            pages[start] = street.generation;
+            pages[start + 1] = what;
+            pages[start + 2] = who;
+            pages[start + 3] = much;
+            street.lines++;
         }
 
         /** What the law tells of a house for a word, within its bounds. */
@@ -1742,8 +1740,7 @@ public final class NextDoorBrides {
             int sum = 0;
             int run = 0;
             for (int door = 0; door < n; door++) {
-                boolean marked = (marks >> door & 1) == 1;
-                if (!marked && threeTogether(marks | 1 << door)) {
+                if (threeTogether(marks | 1 << door)) {
                     return true;
                 }
                 // who marks a door beside a mark, or one further, gives the third door away
