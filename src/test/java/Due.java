@@ -2,8 +2,22 @@
 final class Due {
     private static int asked = 0;
     private static int wrong = 0;
+    private static int sentences = 0;
+    private static String sentence = "";
 
     private Due() {
+    }
+
+    /** The document's own words that the answers from here on hold to. */
+    static void says(String words) {
+        sentences++;
+        sentence = "'" + words + "': ";
+    }
+
+    /** Where the document leaves a choice: how it was read. */
+    static void reads(String words) {
+        sentences++;
+        sentence = "read as: " + words + ": ";
     }
 
     static void same(String call, long got, long want) {
@@ -11,7 +25,17 @@ final class Due {
         if (got != want) {
             wrong++;
             if (wrong <= 50) {
-                System.out.println(call + " answered " + got + ", due is " + want);
+                System.out.println(sentence + call + " answered " + got + ", due is " + want);
+            }
+        }
+    }
+
+    static void same(String call, String got, String want) {
+        asked++;
+        if (!got.equals(want)) {
+            wrong++;
+            if (wrong <= 50) {
+                System.out.println(sentence + call + " answered " + got + ", due is " + want);
             }
         }
     }
@@ -64,7 +88,8 @@ final class Due {
     }
 
     static void finish() {
-        System.out.println(asked + " answers, " + wrong + " not as due");
+        String under = sentences > 0 ? " under " + sentences + " sentences" : "";
+        System.out.println(asked + " answers" + under + ", " + wrong + " not as due");
         if (wrong != 0) {
             System.exit(1);
         }

@@ -1,7 +1,7 @@
 /** Promises 1 to 6, 11 to 14 and 36: houses, deeds by hand, generations, the book, and both in thought. */
 public final class StreetTest {
-    private static final int FAR = Integer.MAX_VALUE;
-    private static final int LOW = Integer.MIN_VALUE;
+    private static final int FAR = Given.FAR;
+    private static final int LOW = Given.LOW;
 
     private StreetTest() {
     }
@@ -31,30 +31,6 @@ public final class StreetTest {
         Due.finish();
     }
 
-    private static NextDoorBrides with(int[]... houses) {
-        NextDoorBrides x = new NextDoorBrides();
-        for (int[] h : houses) {
-            x.house(h[0], h[1], h[2]);
-        }
-        return x;
-    }
-
-    private static int[] h(int girls, int boys, int dowry) {
-        return new int[] {girls, boys, dowry};
-    }
-
-    private static void houseIs(NextDoorBrides x, int who, int... due) {
-        for (int what = 0; what < due.length; what++) {
-            Due.same("of(" + who + ", " + what + ")", x.of(who, what), due[what]);
-        }
-    }
-
-    private static void bookIs(NextDoorBrides x, int i, int... due) {
-        for (int what = 0; what < 4; what++) {
-            Due.same("book(" + i + ", " + what + ")", x.book(i, what), due[what]);
-        }
-    }
-
     private static void aNewObject() {
         NextDoorBrides x = new NextDoorBrides();
         int[] due = {0, 0, 0, 0, -1, 0, 0, 0, 0, 0, 0, 0, 0, 0};
@@ -69,7 +45,7 @@ public final class StreetTest {
     }
 
     private static void state() {
-        NextDoorBrides x = with(h(0, 0, 0));
+        NextDoorBrides x = Given.street(Given.h(0, 0, 0));
         Due.same("state(5)", x.state(5), 0);
         Due.same("state(-7)", x.state(-7), 5);
         Due.same("state(least)", x.state(LOW), -7);
@@ -90,7 +66,7 @@ public final class StreetTest {
         Due.same("look(4)", x.look(4), -1);
         Due.same("house(9, 9, 9999)", x.house(9, 9, 9999), 0);
         Due.same("look(4)", x.look(4), 0);
-        houseIs(x, 0, 9, 9, 9999, 0, 0, 0, 0, -1);
+        Given.houseIs(x, 0, 9, 9, 9999, 0, 0, 0, 0, -1);
         for (int i = 1; i < 16; i++) {
             Due.same("house(0, 0, 0)", x.house(0, 0, 0), i);
             Due.same("of(i, 5)", x.of(i, 5), i);
@@ -98,7 +74,7 @@ public final class StreetTest {
         Due.same("house(0, 0, 0)", x.house(0, 0, 0), -1);
         Due.same("look(0)", x.look(0), 16);
         Due.same("look(4)", x.look(4), 0);
-        NextDoorBrides y = with(h(1, 1, 1));
+        NextDoorBrides y = Given.street(Given.h(1, 1, 1));
         y.act(1, 0);
         y.house(-1, 0, 0);
         Due.same("look(13) behind a house that can't be", y.look(13), 1);
@@ -107,7 +83,7 @@ public final class StreetTest {
     }
 
     private static void set() {
-        NextDoorBrides x = with(h(1, 2, 3), h(4, 5, 6));
+        NextDoorBrides x = Given.street(Given.h(1, 2, 3), Given.h(4, 5, 6));
         int[] most = {9, 9, 9999, 9, 1};
         for (int what = 0; what < 5; what++) {
             Due.yes("set(" + what + ", 1, most)", x.set(what, 1, most[what]));
@@ -121,7 +97,7 @@ public final class StreetTest {
             Due.no("set(" + what + ", 2, 0)", x.set(what, 2, 0));
             Due.no("set(" + what + ", -1, 0)", x.set(what, -1, 0));
         }
-        houseIs(x, 0, 1, 2, 3, 0, 0, 0);
+        Given.houseIs(x, 0, 1, 2, 3, 0, 0, 0);
         Due.no("set(5, 0, 0)", x.set(5, 0, 0));
         Due.no("set(-1, 0, 0)", x.set(-1, 0, 0));
         Due.no("set(far, 0, 0)", x.set(FAR, 0, 0));
@@ -134,18 +110,18 @@ public final class StreetTest {
     }
 
     private static void actWedsToAHouse() {
-        NextDoorBrides x = with(h(2, 0, 101), h(1, 2, 9990));
+        NextDoorBrides x = Given.street(Given.h(2, 0, 101), Given.h(1, 2, 9990));
         Due.yes("act(0, 0)", x.act(0, 0));
-        houseIs(x, 0, 1, 0, 51, 0, 0, -1);
-        houseIs(x, 1, 1, 1, 9999, 1, 0, 0);
+        Given.houseIs(x, 0, 1, 0, 51, 0, 0, -1);
+        Given.houseIs(x, 1, 1, 1, 9999, 1, 0, 0);
         Due.same("jug with her", x.look(4), 1);
         Due.same("weddings", x.look(1), 1);
         Due.same("no draw", x.look(8), 0);
-        bookIs(x, 0, 0, 0, 0, 50);
+        Given.bookIs(x, 0, 0, 0, 0, 50);
         Due.yes("act(0, 0) again", x.act(0, 0));
-        houseIs(x, 0, 0, 0, 26, 0, 0, -1);
+        Given.houseIs(x, 0, 0, 0, 26, 0, 0, -1);
         // no linen is left to bring: that of house 1 stays
-        houseIs(x, 1, 1, 0, 9999, 2, 0, 0);
+        Given.houseIs(x, 1, 1, 0, 9999, 2, 0, 0);
         Due.no("act(0, 0) without a girl", x.act(0, 0));
         x.set(0, 0, 1);
         Due.no("act(0, 0) without a boy", x.act(0, 0));
@@ -158,7 +134,7 @@ public final class StreetTest {
         x.set(3, 1, 9);
         Due.yes("act(0, 0) to nine couples", x.act(0, 0));
         Due.same("of(1, 3)", x.of(1, 3), 9);
-        NextDoorBrides y = with(h(1, 1, 0), h(1, 1, 0));
+        NextDoorBrides y = Given.street(Given.h(1, 1, 0), Given.h(1, 1, 0));
         Due.tell(y, 2, "house 1 feud 0;");
         Due.no("act(0, 0) with a feud from there", y.act(0, 0));
         Due.tell(y, 2, "house 0 feud 1;");
@@ -172,23 +148,23 @@ public final class StreetTest {
     }
 
     private static void actWedsToTheSea() {
-        NextDoorBrides x = with(h(1, 1, 9));
+        NextDoorBrides x = Given.street(Given.h(1, 1, 9));
         Due.yes("act(0, 0)", x.act(0, 0));
-        houseIs(x, 0, 0, 1, 5, 0, 0, -1);
+        Given.houseIs(x, 0, 0, 1, 5, 0, 0, -1);
         Due.same("gone", x.look(2), 1);
         Due.same("weddings", x.look(1), 0);
         Due.same("jug stays", x.look(4), 0);
-        bookIs(x, 0, 0, 1, 0, 4);
+        Given.bookIs(x, 0, 0, 1, 0, 4);
         Due.no("act(0, 0)", x.act(0, 0));
     }
 
     private static void actOtherDeeds() {
-        NextDoorBrides x = with(h(8, 8, 0), h(0, 0, 0));
+        NextDoorBrides x = Given.street(Given.h(8, 8, 0), Given.h(0, 0, 0));
         Due.yes("act(1, 0)", x.act(1, 0));
         Due.no("act(1, 0) at nine", x.act(1, 0));
         Due.yes("act(2, 0)", x.act(2, 0));
         Due.no("act(2, 0) at nine", x.act(2, 0));
-        houseIs(x, 0, 9, 9);
+        Given.houseIs(x, 0, 9, 9);
         Due.no("act(3, 0) without", x.act(3, 0));
         x.set(4, 0, 1);
         Due.yes("act(3, 0)", x.act(3, 0));
@@ -223,23 +199,23 @@ public final class StreetTest {
         int chance = drawn(after(0, 1), 1000);
         Due.same("the first draw", chance, 563);
         for (int goes : new int[] {563, 564}) {
-            NextDoorBrides x = with(h(1, 0, 100), h(0, 1, 0));
+            NextDoorBrides x = Given.street(Given.h(1, 0, 100), Given.h(0, 1, 0));
             Due.tell(x, 0, "goes " + goes + "; bears 0;");
             Due.same("years(1) with " + goes, x.years(1), goes == 564 ? 1 : 0);
             Due.same("one draw", x.look(8), after(0, 1));
             Due.same("book lines", x.look(7), 1);
-            bookIs(x, 0, 0, goes == 564 ? 0 : 4, goes == 564 ? 0 : 1, goes == 564 ? 50 : 0);
+            Given.bookIs(x, 0, 0, goes == 564 ? 0 : 4, goes == 564 ? 0 : 1, goes == 564 ? 50 : 0);
             Due.same("generation", x.look(6), 1);
         }
-        NextDoorBrides y = with(h(1, 0, 100), h(0, 1, 0));
+        NextDoorBrides y = Given.street(Given.h(1, 0, 100), Given.h(0, 1, 0));
         Due.tell(y, 0, "goes 0;");
         y.years(1);
         Due.same("no draw for 0", y.look(8), 0);
-        NextDoorBrides z = with(h(1, 0, 100), h(0, 1, 0));
+        NextDoorBrides z = Given.street(Given.h(1, 0, 100), Given.h(0, 1, 0));
         Due.tell(z, 0, "goes 1000; bears 0;");
         Due.same("years(1) with 1000", z.years(1), 1);
         Due.same("a draw for 1000", z.look(8), after(0, 1));
-        NextDoorBrides s = with(h(3, 0, 100));
+        NextDoorBrides s = Given.street(Given.h(3, 0, 100));
         s.state(after(0, 0));
         Due.tell(s, 0, "goes 1000;");
         Due.same("years(2) to the sea", s.years(2), 0);
@@ -248,21 +224,21 @@ public final class StreetTest {
     }
 
     private static void yearsStopAtAGap() {
-        NextDoorBrides x = with(h(2, 0, 0), h(1, 0, 0), h(0, 0, 0));
+        NextDoorBrides x = Given.street(Given.h(2, 0, 0), Given.h(1, 0, 0), Given.h(0, 0, 0));
         x.years(1);
         Due.same("gaps", x.look(3), 2);
         Due.same("no draw", x.look(8), 0);
-        bookIs(x, 0, 0, 2, 0, 1);
-        bookIs(x, 1, 0, 2, 1, 2);
+        Given.bookIs(x, 0, 0, 2, 0, 1);
+        Given.bookIs(x, 1, 0, 2, 1, 2);
         Due.same("goes with two gaps", x.of(0, 8), 600);
         x.years(4);
         Due.same("gaps", x.look(3), 10);
         Due.same("goes held", x.of(0, 8), 0);
         // the gap of house 0 is told to house 1 in the same generation
-        NextDoorBrides y = with(h(1, 0, 0), h(1, 0, 0), h(0, 1, 0));
+        NextDoorBrides y = Given.street(Given.h(1, 0, 0), Given.h(1, 0, 0), Given.h(0, 1, 0));
         Due.tell(y, 0, "goes 1000 when gaps = 1; goes 0;");
         Due.same("years(1)", y.years(1), 1);
-        NextDoorBrides z = with(h(1, 1, 0), h(0, 1, 0));
+        NextDoorBrides z = Given.street(Given.h(1, 1, 0), Given.h(0, 1, 0));
         Due.tell(z, 2, "house 1 feud 0;");
         z.years(1);
         Due.same("a feud is a gap", z.look(3), 1);
@@ -273,7 +249,7 @@ public final class StreetTest {
     }
 
     private static void yearsBearChildren() {
-        NextDoorBrides x = with(h(0, 0, 0));
+        NextDoorBrides x = Given.street(Given.h(0, 0, 0));
         x.set(3, 0, 3);
         Due.tell(x, 0, "bears couples;");
         x.years(1);
@@ -281,42 +257,42 @@ public final class StreetTest {
         for (int i = 1; i <= 9; i++) {
             girls += drawn(after(0, i), 2) == 0 ? 1 : 0;
         }
-        houseIs(x, 0, girls, 9 - girls, 0, 0);
+        Given.houseIs(x, 0, girls, 9 - girls, 0, 0);
         Due.same("nine draws", x.look(8), after(0, 9));
-        bookIs(x, 0, 0, 3, 0, 9);
+        Given.bookIs(x, 0, 0, 3, 0, 9);
         // beyond nine they are drawn, not counted
-        NextDoorBrides y = with(h(9, 9, 0));
+        NextDoorBrides y = Given.street(Given.h(9, 9, 0));
         Due.tell(y, 0, "goes 0; bears 5;");
         y.set(3, 0, 2);
         y.years(1);
         Due.same("ten draws", y.look(8), after(0, 10));
-        houseIs(y, 0, 9, 9, 0, 0);
+        Given.houseIs(y, 0, 9, 9, 0, 0);
         Due.same("no line for none", y.look(7), 0);
         // each couple is asked anew
-        NextDoorBrides z = with(h(0, 0, 0));
+        NextDoorBrides z = Given.street(Given.h(0, 0, 0));
         z.set(3, 0, 4);
         Due.tell(z, 0, "bears 1 when girls + boys < 2; bears 0;");
         z.years(1);
         Due.same("two children", z.of(0, 0) + z.of(0, 1), 2);
         Due.same("two draws", z.look(8), after(0, 2));
-        NextDoorBrides w = with(h(1, 0, 8), h(0, 1, 0));
+        NextDoorBrides w = Given.street(Given.h(1, 0, 8), Given.h(0, 1, 0));
         Due.tell(w, 0, "goes 1000;");
         w.years(1);
         Due.same("bears 2 without a law", w.of(1, 0) + w.of(1, 1), 2);
     }
 
     private static void yearsMakeWidows() {
-        NextDoorBrides x = with(h(0, 1, 0), h(0, 0, 0), h(1, 1, 0), h(0, 2, 0));
+        NextDoorBrides x = Given.street(Given.h(0, 1, 0), Given.h(0, 0, 0), Given.h(1, 1, 0), Given.h(0, 2, 0));
         Due.tell(x, 0, "goes 1000; bears 0;");
         x.years(1);
         // 0 has a boy alone; 1 nobody; 2 sent its girl away, and nobody came; to 3 she came
         Due.same("look(5)", x.look(5), 1 | 4);
-        bookIs(x, 0, 0, 0, 2, 0);
-        bookIs(x, 1, 0, 4, 0, 0);
-        bookIs(x, 2, 0, 4, 2, 0);
+        Given.bookIs(x, 0, 0, 0, 2, 0);
+        Given.bookIs(x, 1, 0, 4, 0, 0);
+        Given.bookIs(x, 2, 0, 4, 2, 0);
         Due.same("look(7)", x.look(7), 3);
         // a wedding by hand is none
-        NextDoorBrides y = with(h(1, 0, 0), h(0, 2, 0));
+        NextDoorBrides y = Given.street(Given.h(1, 0, 0), Given.h(0, 2, 0));
         Due.tell(y, 0, "bears 0;");
         y.act(0, 0);
         y.years(1);
@@ -326,27 +302,27 @@ public final class StreetTest {
     }
 
     private static void yearsByPlans() {
-        NextDoorBrides x = with(h(8, 8, 9990), h(0, 0, 0));
+        NextDoorBrides x = Given.street(Given.h(8, 8, 9990), Given.h(0, 0, 0));
         Due.tell(x, 0, "goes 0;");
         Due.lines(x, 1, "in 1 girl 0; in 1 girl 0; in 1 boy 0; in 1 boy 0; in 1 give 0 999; in 1 jug 1; in 1 widow 1;", 7);
         x.years(1);
-        houseIs(x, 0, 8, 8, 9990);
+        Given.houseIs(x, 0, 8, 8, 9990);
         x.years(1);
-        houseIs(x, 0, 9, 9, 9999);
+        Given.houseIs(x, 0, 9, 9, 9999);
         Due.same("jug", x.look(4), 1);
         Due.same("widow", x.look(5), 2);
         Due.lines(x, 1, "in 2 comfort 1; in 2 widow 0; in 2 comfort 0; in 2 widow 0;", 4);
         x.years(1);
         Due.same("line by line", x.look(5), 1);
         // a girl by plan can go at once
-        NextDoorBrides y = with(h(0, 0, 0), h(0, 1, 0));
+        NextDoorBrides y = Given.street(Given.h(0, 0, 0), Given.h(0, 1, 0));
         Due.tell(y, 0, "goes 1000;");
         Due.tell(y, 1, "in 0 girl 0;");
         Due.same("years(1)", y.years(1), 1);
     }
 
     private static void yearsWrong() {
-        NextDoorBrides x = with(h(0, 0, 0));
+        NextDoorBrides x = Given.street(Given.h(0, 0, 0));
         for (int n : new int[] {0, -1, 61, FAR, LOW}) {
             Due.same("years(" + n + ")", x.years(n), -1);
         }
@@ -366,9 +342,9 @@ public final class StreetTest {
     }
 
     private static void ofAHouse() {
-        NextDoorBrides x = with(h(1, 2, 3), h(4, 5, 7));
-        houseIs(x, 0, 1, 2, 3, 0, 0, 0, 0, 1, 800, 2, 1, 0);
-        houseIs(x, 1, 4, 5, 7, 0, 0, 1, 0, -1, 800, 2, 3, 0);
+        NextDoorBrides x = Given.street(Given.h(1, 2, 3), Given.h(4, 5, 7));
+        Given.houseIs(x, 0, 1, 2, 3, 0, 0, 0, 0, 1, 800, 2, 1, 0);
+        Given.houseIs(x, 1, 4, 5, 7, 0, 0, 1, 0, -1, 800, 2, 3, 0);
         Due.tell(x, 2, "house 0 feud 1; house 0 feud 1;");
         Due.same("of(0, 11)", x.of(0, 11), 2);
         Due.same("of(1, 11), one way", x.of(1, 11), 0);
@@ -383,11 +359,11 @@ public final class StreetTest {
     }
 
     private static void lawAnswersAreHeld() {
-        NextDoorBrides x = with(h(1, 2, 30), h(4, 5, 7));
+        NextDoorBrides x = Given.street(Given.h(1, 2, 30), Given.h(4, 5, 7));
         Due.tell(x, 0, "goes 1001; bears 6; brings dowry + 1;");
-        houseIs(x, 0, 1, 2, 30, 0, 0, 0, 0, 1, 1000, 5, 30);
+        Given.houseIs(x, 0, 1, 2, 30, 0, 0, 0, 0, 1, 1000, 5, 30);
         Due.tell(x, 0, "goes 0 - 1; bears 0 - 1; brings 0 - 1;");
-        houseIs(x, 0, 1, 2, 30, 0, 0, 0, 0, 1, 0, 0, 0);
+        Given.houseIs(x, 0, 1, 2, 30, 0, 0, 0, 0, 1, 0, 0, 0);
         Due.tell(x, 0, "goes 7 - 20 / 3 * 2 + 1000 - 500;");
         Due.same("signs by their rank, from the left", x.of(0, 8), 495);
         Due.tell(x, 0, "goes 500 + 0 - 7 / 2;");
@@ -428,7 +404,7 @@ public final class StreetTest {
     }
 
     private static void sides() {
-        NextDoorBrides x = with(h(1, 1, 10), h(1, 1, 20), h(1, 1, 30), h(1, 1, 40), h(1, 1, 50));
+        NextDoorBrides x = Given.street(Given.h(1, 1, 10), Given.h(1, 1, 20), Given.h(1, 1, 30), Given.h(1, 1, 40), Given.h(1, 1, 50));
         Due.lines(x, 3, "house 1 side 0; house 1 side 1; house 3 side 1; house 0 side 1; house 0 side 0;", 5);
         int[] side = {0, 1, 0, 1, 0};
         int[] to = {2, -1, 4, 1, -1};
@@ -457,7 +433,7 @@ public final class StreetTest {
         Due.same("look(7)", x.look(7), 135);
         x.years(2);
         Due.same("look(7), no more then", x.look(7), 150);
-        bookIs(x, 149, 9, 2, 14, 15);
+        Given.bookIs(x, 149, 9, 2, 14, 15);
         Due.same("book(150, 0)", x.book(150, 0), -1);
         Due.same("look(3)", x.look(3), 165);
         for (int i : new int[] {-1, 151, FAR, LOW}) {
@@ -474,7 +450,7 @@ public final class StreetTest {
     }
 
     private static void goesInThought() {
-        NextDoorBrides x = with(h(1, 0, 100), h(1, 1, 50), h(0, 1, 0));
+        NextDoorBrides x = Given.street(Given.h(1, 0, 100), Given.h(1, 1, 50), Given.h(0, 1, 0));
         Due.tell(x, 0, "bears 0; goes 500; brings 10;");
         x.act(0, 1);
         Due.same("goes(1, 0), all of them", x.goes(1, 0), 2);
@@ -487,11 +463,11 @@ public final class StreetTest {
         Due.same("no undo", x.look(13), 1);
         Due.tell(x, 0, "bears 0; goes 499; brings 10;");
         Due.same("goes(1, 0) below 500", x.goes(60, 0), 1);
-        NextDoorBrides y = with(h(3, 0, 80));
+        NextDoorBrides y = Given.street(Given.h(3, 0, 80));
         Due.same("goes(2, 1) to the sea", y.goes(2, 1), 2);
         Due.same("goes(2, 3) to the sea", y.goes(2, 3), 20);
         Due.same("goes(60, 1)", y.goes(60, 1), 3);
-        NextDoorBrides z = with(h(1, 0, 80), h(0, 0, 0));
+        NextDoorBrides z = Given.street(Given.h(1, 0, 80), Given.h(0, 0, 0));
         Due.same("goes(60, 2)", z.goes(60, 2), 60);
         Due.tell(z, 1, "in 3 boy 1;");
         Due.same("goes(4, 0) by plan, at three gaps", z.goes(4, 0), 1);
@@ -505,25 +481,25 @@ public final class StreetTest {
 
     private static void childrenInThought() {
         // three children by turns: girl, boy, girl; the boy of nine already is passed over, not put off
-        NextDoorBrides x = with(h(0, 9, 64));
+        NextDoorBrides x = Given.street(Given.h(0, 9, 64));
         x.set(3, 0, 1);
         Due.tell(x, 0, "bears 3; goes 1000; brings 1;");
         Due.same("goes(1, 1)", x.goes(1, 1), 0);
         Due.same("goes(3, 1), two girls", x.goes(3, 1), 2);
         Due.same("goes(60, 1)", x.goes(60, 1), 2);
         // through all couples: the second couple's first child is a boy
-        NextDoorBrides y = with(h(0, 0, 64));
+        NextDoorBrides y = Given.street(Given.h(0, 0, 64));
         y.set(3, 0, 2);
         Due.tell(y, 0, "bears 1; goes 1000;");
         Due.same("goes(60, 1), one girl", y.goes(60, 1), 1);
-        NextDoorBrides z = with(h(0, 0, 64));
+        NextDoorBrides z = Given.street(Given.h(0, 0, 64));
         z.set(3, 0, 2);
         Due.tell(z, 0, "bears 3; goes 1000;");
         Due.same("goes(60, 1), three girls", z.goes(60, 1), 3);
     }
 
     private static void jugInThought() {
-        NextDoorBrides x = with(h(1, 0, 0), h(0, 1, 0), h(0, 1, 0));
+        NextDoorBrides x = Given.street(Given.h(1, 0, 0), Given.h(0, 1, 0), Given.h(0, 1, 0));
         Due.tell(x, 0, "goes 500;");
         Due.same("jug(0)", x.jug(0), 0);
         Due.same("jug(1)", x.jug(1), 1);
@@ -544,7 +520,7 @@ public final class StreetTest {
     }
 
     private static void look() {
-        NextDoorBrides x = with(h(1, 1, 100), h(0, 2, 0));
+        NextDoorBrides x = Given.street(Given.h(1, 1, 100), Given.h(0, 2, 0));
         Due.tell(x, 0, "goes 1000; bears 0; brings 1;");
         Due.tell(x, 1, "in 5 girl 0; in 6 girl 0;");
         Due.tell(x, 2, "house 1 feud 0;");

@@ -17,16 +17,8 @@ public final class TextTest {
         Due.finish();
     }
 
-    private static NextDoorBrides street(int houses) {
-        NextDoorBrides x = new NextDoorBrides();
-        for (int i = 0; i < houses; i++) {
-            x.house(1, 1, 10);
-        }
-        return x;
-    }
-
     private static void tape() {
-        NextDoorBrides x = street(1);
+        NextDoorBrides x = Given.houses(1, 1, 1, 10);
         for (int i = 1; i <= 20; i++) {
             Due.same("feed", x.feed(0x20202020, 0x20202020, 0x20202020, 0x20202020, 0x20202020), 20 * i);
         }
@@ -57,7 +49,7 @@ public final class TextTest {
     }
 
     private static void tokens() {
-        NextDoorBrides x = street(2);
+        NextDoorBrides x = Given.houses(2, 1, 1, 10);
         Due.lines(x, 0, "", 0);
         Due.lines(x, 0, " \n ", 0);
         Due.lines(x, 0, "goes1;bears2;", 2);
@@ -91,7 +83,7 @@ public final class TextTest {
     }
 
     private static void lawFaults() {
-        NextDoorBrides x = street(1);
+        NextDoorBrides x = Given.houses(1, 1, 1, 10);
         Due.fault(x, 0, "goes ;", 1, 5);
         Due.fault(x, 0, "goes when 1 = 1;", 1, 5);
         Due.fault(x, 0, "goes -1;", 1, 5);
@@ -127,7 +119,7 @@ public final class TextTest {
     }
 
     private static void openOnes() {
-        NextDoorBrides x = street(1);
+        NextDoorBrides x = Given.houses(1, 1, 1, 10);
         Due.lines(x, 0, "goes 1 when ((((((((1=1))))))));", 1);
         Due.fault(x, 0, "goes 1 when (((((((((1=1)))))))));", 3, 20);
         Due.lines(x, 0, "goes 1 when not not not not not not not not 1=1;", 1);
@@ -142,7 +134,7 @@ public final class TextTest {
     }
 
     private static void planFaults() {
-        NextDoorBrides x = street(2);
+        NextDoorBrides x = Given.houses(2, 1, 1, 10);
         Due.lines(x, 1, "in 0 girl 0; in 999 boy 1; in 5 widow 1; in 5 comfort 1; in 5 give 0 1; in 5 give 1 999; in 5 jug 1;", 7);
         Due.same("look(10)", x.look(10), 7);
         Due.fault(x, 1, "in 1000 girl 0;", 2, 3);
@@ -160,11 +152,11 @@ public final class TextTest {
         Due.fault(x, 1, "in 1 give 2 1000;", 2, 10);
         Due.fault(x, 1, "in 1 girl 1", 1, 11);
         Due.fault(x, 1, "in 1 girl 1; in", 1, 15);
-        Due.fault(street(0), 1, "in 1 girl 0;", 2, 10);
+        Due.fault(Given.houses(0, 1, 1, 10), 1, "in 1 girl 0;", 2, 10);
     }
 
     private static void feudFaults() {
-        NextDoorBrides x = street(3);
+        NextDoorBrides x = Given.houses(3, 1, 1, 10);
         Due.lines(x, 2, "house 0 feud 1;house 1 feud 0;house 0 feud 1;house 0 feud 2;", 4);
         Due.same("look(11)", x.look(11), 4);
         Due.same("of(0, 11)", x.of(0, 11), 6);
@@ -184,7 +176,7 @@ public final class TextTest {
     }
 
     private static void sideFaults() {
-        NextDoorBrides x = street(3);
+        NextDoorBrides x = Given.houses(3, 1, 1, 10);
         Due.lines(x, 3, "house 0 side 1;house 2 side 1;house 0 side 0;", 3);
         Due.same("look(12)", x.look(12), 3);
         Due.fault(x, 3, "house 0 side 2;", 2, 13);
@@ -202,7 +194,7 @@ public final class TextTest {
     }
 
     private static void seventeenLines() {
-        NextDoorBrides x = street(3);
+        NextDoorBrides x = Given.houses(3, 1, 1, 10);
         String[] lines = {"goes 1;", "in 1 girl 1;", "house 1 feud 2;", "house 1 side 1;"};
         String[] first = {"brings", "in", "house", "house"};
         for (int k = 0; k < 4; k++) {
@@ -217,7 +209,7 @@ public final class TextTest {
     }
 
     private static void aFaultChangesNothing() {
-        NextDoorBrides x = street(2);
+        NextDoorBrides x = Given.houses(2, 1, 1, 10);
         Due.lines(x, 0, "goes 5;", 1);
         Due.fault(x, 0, "goes 6; goes", 1, 12);
         Due.same("of(0, 8)", x.of(0, 8), 5);
@@ -244,7 +236,7 @@ public final class TextTest {
     }
 
     private static void noSuchText() {
-        NextDoorBrides x = street(1);
+        NextDoorBrides x = Given.houses(1, 1, 1, 10);
         for (int k : new int[] {-1, 4, Integer.MAX_VALUE, Integer.MIN_VALUE}) {
             Due.fault(x, 0, "x", 1, 0);
             Due.feed(x, "goes 5;");

@@ -1,7 +1,7 @@
 /** Promises 15 to 33: what is told for thought, its edges and its wrong inputs, with answers found by hand. */
 public final class ThoughtTest {
-    private static final int FAR = Integer.MAX_VALUE;
-    private static final int LOW = Integer.MIN_VALUE;
+    private static final int FAR = Given.FAR;
+    private static final int LOW = Given.LOW;
 
     private ThoughtTest() {
     }

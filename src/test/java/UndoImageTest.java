@@ -25,50 +25,31 @@ public final class UndoImageTest {
         return x;
     }
 
-    /** All that can be seen of the street, as one number. */
-    private static long seen(NextDoorBrides x) {
-        long sum = 17;
-        for (int what = 0; what <= 12; what++) {
-            sum = sum * 31 + x.look(what);
-        }
-        for (int who = 0; who < x.look(0); who++) {
-            for (int what = 0; what <= 11; what++) {
-                sum = sum * 31 + x.of(who, what);
-            }
-        }
-        for (int i = 0; i < x.look(7); i++) {
-            for (int what = 0; what <= 3; what++) {
-                sum = sum * 31 + x.book(i, what);
-            }
-        }
-        return sum;
-    }
-
     private static void undoBringsAllBack() {
         NextDoorBrides x = street();
         x.set(4, 2, 1);
         x.state(99);
         int[][] deeds = {{0, 0}, {1, 2}, {2, 0}, {3, 2}, {4, 2}};
         for (int[] deed : deeds) {
-            long before = seen(x);
+            String before = Seen.street(x);
             Due.yes("act(" + deed[0] + ", " + deed[1] + ")", x.act(deed[0], deed[1]));
-            Due.no("another one", seen(x) == before);
+            Due.no("another one", Seen.street(x).equals(before));
             Due.yes("undo()", x.undo());
-            Due.yes("as before", seen(x) == before);
+            Due.same("as before", Seen.street(x), before);
             x.act(deed[0], deed[1]);
         }
         Due.same("look(13)", x.look(13), 5);
-        long before = seen(x);
+        String before = Seen.street(x);
         x.years(1);
-        long between = seen(x);
+        String between = Seen.street(x);
         x.years(1);
         Due.yes("undo()", x.undo());
-        Due.yes("as between", seen(x) == between);
+        Due.same("as between", Seen.street(x), between);
         Due.yes("undo()", x.undo());
-        Due.yes("as before", seen(x) == before);
+        Due.same("as before", Seen.street(x), before);
         Due.same("STATE", x.look(8), 99);
         x.years(1);
-        Due.yes("the same again", seen(x) == between);
+        Due.same("the same again", Seen.street(x), between);
     }
 
     private static void sixAreKept() {
@@ -201,7 +182,7 @@ public final class UndoImageTest {
         x.years(2);
         tellThoughts(x, 0);
         thoughtsAre(x, 2);
-        long before = seen(x);
+        String before = Seen.street(x);
         Due.yes("image(true)", x.image(true));
         x.child(-1);
         x.bought(-1, 0);
@@ -219,7 +200,7 @@ public final class UndoImageTest {
         Due.fault(x, 0, "goes 1 !", 1, 7);
         Due.feed(x, "goes 3;");
         Due.yes("image(false)", x.image(false));
-        Due.yes("as before", seen(x) == before);
+        Due.same("as before", Seen.street(x), before);
         thoughtsAre(x, 2);
         Due.same("fault(0) is none of it", x.fault(0), 1);
         Due.same("fault(1) is none of it", x.fault(1), 7);
@@ -233,19 +214,19 @@ public final class UndoImageTest {
         NextDoorBrides x = street();
         x.state(12345);
         x.image(true);
-        long before = seen(x);
+        String before = Seen.street(x);
         x.years(5);
-        long then = seen(x);
+        String then = Seen.street(x);
         for (int i = 0; i < 3; i++) {
             Due.yes("image(false)", x.image(false));
-            Due.yes("as before", seen(x) == before);
+            Due.same("as before", Seen.street(x), before);
             x.years(5);
-            Due.yes("all goes on as then", seen(x) == then);
+            Due.same("all goes on as then", Seen.street(x), then);
         }
         x.image(true);
         x.house(1, 1, 1);
         x.image(false);
-        Due.yes("the later one", seen(x) == then);
+        Due.same("the later one", Seen.street(x), then);
     }
 
     private static void imageKeepsTheBook() {
@@ -267,7 +248,7 @@ public final class UndoImageTest {
         y.years(9);
         Due.same("look(7)", y.look(7), 135);
         y.image(true);
-        long before = seen(y);
+        String before = Seen.street(y);
         for (int i = 0; i < 6; i++) {
             y.undo();
         }
@@ -275,7 +256,7 @@ public final class UndoImageTest {
         y.years(9);
         Due.same("look(7), others in their place", y.look(7), 150);
         y.image(false);
-        Due.yes("a long book as before", seen(y) == before);
+        Due.same("a long book as before", Seen.street(y), before);
         NextDoorBrides z = street();
         z.image(true);
         Due.tell(z, 2, "house 0 feud 1; house 1 feud 2;");
