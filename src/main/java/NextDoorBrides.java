@@ -733,6 +733,7 @@ public final class NextDoorBrides {
         private static final int NUMBER = 2;
         private static final int SIGN = 3;
         private static final int OTHER = 4;
+        private static final int BLANK = 5;
 
         private static final String SIGNS = ";+-*/()<=>";
         private static final String LAW_WORDS =
@@ -747,6 +748,7 @@ public final class NextDoorBrides {
         private static final int FIRST_NAME = 7;
         private static final int GIVE = 5;
         private static final int MOST_OPEN = 8;
+        private static final int MOST_DIGITS = 4;
 
         private final Rules draft;
         private final int[] tape;
@@ -755,7 +757,12 @@ public final class NextDoorBrides {
         private int faultPlace;
         private String words;
         private int houses;
-        /* The token that is looked at: what it is, where it begins, and where the next one may. */
+        /* All tokens of the tape, the end as the last one: what each is, its value, and where it begins. */
+        private final int[] kinds;
+        private final int[] values;
+        private final int[] places;
+        private int tokens;
+        /* The token that is looked at, and which comes next. */
         private int kind;
         private int value;
         private int place;
@@ -764,6 +771,9 @@ public final class NextDoorBrides {
         Reader() {
             draft = new Rules();
             tape = new int[MOST_TAPE];
+            kinds = new int[MOST_TAPE + 1];
+            values = new int[MOST_TAPE + 1];
+            places = new int[MOST_TAPE + 1];
             faultPlace = NONE;
             words = LAW_WORDS;
         }
@@ -800,7 +810,7 @@ public final class NextDoorBrides {
                 words = wordsOf(k);
                 houses = count;
                 draft.empty(k);
-                next = 0;
+                findTokens();
                 advance();
                 // one line too many is read as well: it is what finds its own fault
                 for (int line = 0; line <= MOST_LINES && well && kind != END; line++) {
@@ -931,26 +941,30 @@ public final class NextDoorBrides {
             return true;
         }
 
-        /** B, with so many brackets and nots open: A or A or A .. */
+        /** B, with so many brackets and nots open: as a sum, or joins what and has joined before. */
         private boolean readEither(int open) {
-            boolean well = readBoth(open);
-            for (int n = 0; n < MOST_TAPE && well && isWord(OR); n++) {
+            boolean or = false;
+            boolean and = false;
+            for (int n = 0; n < MOST_TAPE; n++) {
+                if (!readCondition(open)) {
+                    return false;
+                }
+                if (and) {
+                    draft.code.add(CODE_AND);
+                }
+                and = isWord(AND);
+                if (!and) {
+                    if (or) {
+                        draft.code.add(CODE_OR);
+                    }
+                    or = isWord(OR);
+                    if (!or) {
+                        return true;
+                    }
+                }
                 advance();
-                well = readBoth(open);
-                draft.code.add(CODE_OR);
             }
-            return well;
-        }
-
-        /** A: C and C and C .. */
-        private boolean readBoth(int open) {
-            boolean well = readCondition(open);
-            for (int n = 0; n < MOST_TAPE && well && isWord(AND); n++) {
-                advance();
-                well = readCondition(open);
-                draft.code.add(CODE_AND);
-            }
-            return well;
+            return refuse(1);
         }
 
         /** C: what is opened in it is closed again at its end. */
@@ -1031,61 +1045,102 @@ public final class NextDoorBrides {
             return false;
         }
 
+        /** The next token is looked at; behind the end it stays. */
         private void advance() {
-            place = next;
-            while (place < size && (tape[place] == ' ' || tape[place] == '\n')) {
-                place++;
-            }
-            next = place;
-            value = 0;
-            if (place >= size) {
-                kind = END;
-            } else if (isLetter(tape[place])) {
-                while (next < size && isLetter(tape[next])) {
-                    next++;
-                }
-                value = wordNumber();
-                kind = value == NONE ? OTHER : WORD;
-            } else if (isDigit(tape[place])) {
-                while (next < size && isDigit(tape[next])) {
-                    // a longer one is none: its value must only not run over
-                    value = value > 9999 ? value : value * 10 + tape[next] - '0';
-                    next++;
-                }
-                kind = next - place > 4 ? OTHER : NUMBER;
-            } else {
+            if (next < tokens && next < kinds.length) {
+                kind = kinds[next];
+                value = values[next];
+                place = places[next];
                 next++;
-                value = tape[place];
-                kind = SIGNS.indexOf((char) value) < 0 ? OTHER : SIGN;
             }
         }
 
-        /** Which of the text's keywords the letters from place to next are; NONE: none. */
-        private int wordNumber() {
+        /* All are found before the first one is read: so the calls of the reading stay few deep. */
+        private void findTokens() {
+            tokens = 0;
+            next = 0;
+            for (int at = 0; at < size; at++) {
+                int sort = sortOf(tape[at]);
+                boolean goesOn = standsTogether(sort) && at > 0 && sortOf(tape[at - 1]) == sort;
+                if (sort != BLANK && !goesOn) {
+                    findToken(at, sort);
+                }
+            }
+            addToken(END, 0, size);
+        }
+
+        private void findToken(int from, int sort) {
+            int to = from + 1;
+            while (to < size && standsTogether(sort) && sortOf(tape[to]) == sort) {
+                to++;
+            }
+            int worth = tape[from];
+            if (sort == WORD) {
+                worth = wordNumber(from, to);
+            } else if (sort == NUMBER) {
+                worth = numberOf(from, to);
+            }
+            addToken(worth == NONE ? OTHER : sort, worth, from);
+        }
+
+        private void addToken(int sort, int worth, int at) {
+            if (tokens < kinds.length) {
+                kinds[tokens] = sort;
+                values[tokens] = worth;
+                places[tokens] = at;
+                tokens++;
+            }
+        }
+
+        /** Which of the text's keywords the letters between are; NONE: none. */
+        private int wordNumber(int from, int to) {
             int number = 0;
-            int at = place;
+            int at = from;
             boolean same = true;
             for (int i = 0; i < words.length(); i++) {
                 if (words.charAt(i) != ' ') {
-                    same = same && at < next && tape[at] == words.charAt(i);
+                    same = same && at < to && tape[at] == words.charAt(i);
                     at++;
-                } else if (same && at == next) {
+                } else if (same && at == to) {
                     return number;
                 } else {
                     number++;
-                    at = place;
+                    at = from;
                     same = true;
                 }
             }
-            return same && at == next ? number : NONE;
+            return same && at == to ? number : NONE;
         }
 
-        private static boolean isLetter(int sign) {
-            return sign >= 'a' && sign <= 'z' || sign >= 'A' && sign <= 'Z';
+        /** The number that the digits between are; NONE: too many of them. */
+        private int numberOf(int from, int to) {
+            if (to - from > MOST_DIGITS) {
+                return NONE;
+            }
+            int number = 0;
+            for (int at = from; at < to; at++) {
+                number = number * 10 + tape[at] - '0';
+            }
+            return number;
         }
 
-        private static boolean isDigit(int sign) {
-            return sign >= '0' && sign <= '9';
+        /** Letters and digits are one token as many as stand together; others are one each. */
+        private static boolean standsTogether(int sort) {
+            return sort == WORD || sort == NUMBER;
+        }
+
+        /** What a token is, of which this sign is a part; a blank is part of none. */
+        private static int sortOf(int sign) {
+            if (sign >= 'a' && sign <= 'z' || sign >= 'A' && sign <= 'Z') {
+                return WORD;
+            }
+            if (sign >= '0' && sign <= '9') {
+                return NUMBER;
+            }
+            if (sign == ' ' || sign == '\n') {
+                return BLANK;
+            }
+            return SIGNS.indexOf((char) sign) < 0 ? OTHER : SIGN;
         }
     }
 

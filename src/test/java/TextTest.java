@@ -6,6 +6,8 @@ public final class TextTest {
     public static void main(String[] args) {
         tape();
         tokens();
+        fullOfTokens();
+        orBehindAnd();
         lawFaults();
         openOnes();
         planFaults();
@@ -46,6 +48,46 @@ public final class TextTest {
         Due.same("text(0)", x.text(0), -1);
         Due.same("fault(0)", x.fault(0), 1);
         Due.same("fault(1)", x.fault(1), 6);
+    }
+
+    /** The tape holds as many tokens as it has bytes, and none of a text is left for the next one. */
+    private static void fullOfTokens() {
+        NextDoorBrides x = Given.houses(1, 1, 1, 10);
+        Due.fault(x, 0, "(".repeat(400), 1, 0);
+        Due.fault(x, 0, "goes1" + "+1".repeat(197) + "+", 1, 400);
+        Due.fault(x, 0, "goes 1" + "+1".repeat(197), 1, 400);
+        Due.fault(x, 0, "goes1" + "+1".repeat(197) + "=", 1, 399);
+        Due.lines(x, 0, "goes1" + "+1".repeat(197) + ";", 1);
+        Due.same("of(0, 8)", x.of(0, 8), 198);
+        Due.fault(x, 0, "goes", 1, 4);
+        Due.lines(x, 0, "goes 3;", 1);
+        Due.same("of(0, 8)", x.of(0, 8), 3);
+        Due.lines(x, 0, "", 0);
+    }
+
+    /** All conditions of three parts, joined each way: and joins first, or what it has joined. */
+    private static void orBehindAnd() {
+        NextDoorBrides x = Given.houses(1, 1, 1, 10);
+        for (int so = 0; so < 8; so++) {
+            boolean a = (so & 1) == 0;
+            boolean b = (so & 2) == 0;
+            boolean c = (so & 4) == 0;
+            String p = "1=" + (a ? 1 : 0);
+            String q = "1=" + (b ? 1 : 0);
+            String r = "1=" + (c ? 1 : 0);
+            isSo(x, p + " or " + q + " and " + r, a || b && c);
+            isSo(x, p + " and " + q + " or " + r, a && b || c);
+            isSo(x, "(" + p + " or " + q + ") and " + r, (a || b) && c);
+            isSo(x, p + " and (" + q + " or " + r + ")", a && (b || c));
+            isSo(x, "not " + p + " and " + q + " or not " + r, !a && b || !c);
+            isSo(x, "not (" + p + " or " + q + ") or not " + r + " and " + p, !(a || b) || !c && a);
+            isSo(x, p + " or " + q + " and " + r + " or " + q + " and " + p, a || b && c || b && a);
+        }
+    }
+
+    private static void isSo(NextDoorBrides x, String condition, boolean so) {
+        Due.lines(x, 0, "goes 7 when " + condition + ";", 1);
+        Due.same(condition, x.of(0, 8), so ? 7 : 800);
     }
 
     private static void tokens() {
